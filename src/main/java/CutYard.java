@@ -62,7 +62,7 @@ public final class CutYard {
     }
 
     public int store(int file) throws IndexOutOfBoundsException, UnsupportedOperationException {
-        return fillFromHand(fileAt(file), hand, inHand);
+        return fillFile(fileAt(file), hand, inHand);
     }
 
     public int edit(int file, int at, int drop)
@@ -78,7 +78,7 @@ public final class CutYard {
         layOut(target);
         System.arraycopy(work, at + drop, work, at + inHand, target.bytes - at - drop);
         System.arraycopy(hand, 0, work, at, inHand);
-        return fillFromHand(target, work, length);
+        return fillFile(target, work, length);
     }
 
     public void copy(int from, int to) throws IndexOutOfBoundsException, UnsupportedOperationException {
@@ -178,7 +178,7 @@ public final class CutYard {
     }
 
     /** Gives a file the first bytes of a row as its content, and empties the hand. */
-    private int fillFromHand(Content target, byte[] row, int length) {
+    private int fillFile(Content target, byte[] row, int length) {
         int before = stock.count;
         int many = takeParts(row, length);
         if (many == NONE) {

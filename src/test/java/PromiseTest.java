@@ -66,9 +66,10 @@ public final class PromiseTest {
         for (int what = 0; what < 3; what++) {
             check.due("new: all", x.all(what), 0);
         }
-        give(x, squares(100));
+        // A row that any other bits, least or most near 4, 4, 32 cuts elsewhere.
+        give(x, steps(100, 177));
         x.store(0);
-        check.due("new: cut by 4, 4, 32", lengths(x, 0), "15 10 8 13 8 9 17 20");
+        check.due("new: cut by 4, 4, 32", lengths(x, 0), "21 32 4 7 17 6 5 4 4");
     }
 
     private void begin() {
@@ -447,6 +448,14 @@ public final class PromiseTest {
         int[] row = new int[many];
         for (int i = 0; i < many; i++) {
             row[i] = i * i % 256;
+        }
+        return row;
+    }
+
+    private static int[] steps(int many, int step) {
+        int[] row = new int[many];
+        for (int i = 0; i < many; i++) {
+            row[i] = i * step % 256;
         }
         return row;
     }
