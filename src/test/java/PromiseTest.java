@@ -38,11 +38,11 @@ public final class PromiseTest {
 
     private void cutting() {
         // The lengths come from a separate program over the document's words.
-        cutAs("i * i", squares(100), 4, 4, 32, "15 10 8 13 8 9 17 20");
-        cutAs("i * i", squares(100), 3, 2, 16, "2 13 10 4 2 7 7 5 2 11 16 2 7 7 5");
-        cutAs("i * i", squares(100), 8, 1, 64, "2 64 34");
-        cutAs("i * i", squares(100), 2, 9, 11, "9 11 10 11 11 9 11 11 9 8");
-        cutAs("i * i", squares(100), 5, 12, 64, "15 31 17 37");
+        cutAs("i * i", Yards.squares(100), 4, 4, 32, "15 10 8 13 8 9 17 20");
+        cutAs("i * i", Yards.squares(100), 3, 2, 16, "2 13 10 4 2 7 7 5 2 11 16 2 7 7 5");
+        cutAs("i * i", Yards.squares(100), 8, 1, 64, "2 64 34");
+        cutAs("i * i", Yards.squares(100), 2, 9, 11, "9 11 10 11 11 9 11 11 9 8");
+        cutAs("i * i", Yards.squares(100), 5, 12, 64, "15 31 17 37");
         cutAs("255 - i", downwards(100), 4, 4, 32, "7 11 6 12 25 6 19 12 2");
         cutAs("255 - i", downwards(100), 5, 12, 64, "18 25 46 11");
         cutAs("255 - i", downwards(100), 8, 32, 64, "64 36");
@@ -52,9 +52,9 @@ public final class PromiseTest {
     private void cutAs(String name, int[] row, int bits, int least, int most, String lengths) {
         CutYard x = new CutYard();
         x.begin(bits, least, most);
-        give(x, row);
+        Yards.give(x, row);
         x.store(0);
-        check.due(name + " cut by " + bits + ", " + least + ", " + most, lengths(x, 0), lengths);
+        check.due(name + " cut by " + bits + ", " + least + ", " + most, Yards.lengths(x, 0), lengths);
     }
 
     private void newObject() {
@@ -67,14 +67,14 @@ public final class PromiseTest {
             check.due("new: all", x.all(what), 0);
         }
         // A row that any other bits, least or most near 4, 4, 32 cuts elsewhere.
-        give(x, steps(100, 177));
+        Yards.give(x, steps(100, 177));
         x.store(0);
-        check.due("new: cut by 4, 4, 32", lengths(x, 0), "21 32 4 7 17 6 5 4 4");
+        check.due("new: cut by 4, 4, 32", Yards.lengths(x, 0), "21 32 4 7 17 6 5 4 4");
     }
 
     private void begin() {
         CutYard x = new CutYard();
-        give(x, squares(100));
+        Yards.give(x, Yards.squares(100));
         x.store(3);
         x.put(3, 0x030201);
         int[][] wrong = {{0, 1, 1}, {9, 1, 1}, {-1, 1, 1}, {1, 0, 1}, {1, 33, 33}, {1, 5, 4}, {1, 1, 65}, {1, 1, 0},
@@ -88,7 +88,7 @@ public final class PromiseTest {
         }
         check.due("begin refused: size stays", x.size(3), 100);
         x.edit(3, 100, 0);
-        check.due("begin refused: the rule stays", lengths(x, 3), "15 10 8 13 8 9 17 23");
+        check.due("begin refused: the rule stays", Yards.lengths(x, 3), "15 10 8 13 8 9 17 23");
         x.put(3, 0x060504);
         x.begin(8, 32, 64);
         check.due("begin: size", x.size(3), 0);
@@ -115,7 +115,7 @@ public final class PromiseTest {
         }
         check.due("put refused", x.all(2), 10);
         x.store(0);
-        check.due("put: lowest first", bytes(x, 0), "17 17 34 17 34 51 17 34 51 254");
+        check.due("put: lowest first", Yards.bytes(x, 0), "17 17 34 17 34 51 17 34 51 254");
 
         CutYard y = new CutYard();
         for (int i = 1; i <= 374; i++) {
@@ -132,19 +132,19 @@ public final class PromiseTest {
     private void store() {
         CutYard x = new CutYard();
         x.begin(1, 2, 2);
-        give(x, 1, 2, 3, 4, 1, 2, 5, 6);
+        Yards.give(x, 1, 2, 3, 4, 1, 2, 5, 6);
         check.due("store: new parts, each once", x.store(0), 3);
         check.due("store: the hand is empty", x.all(2), 0);
-        check.due("store: bytes", bytes(x, 0), "1 2 3 4 1 2 5 6");
-        give(x, 3, 4, 7, 8);
+        check.due("store: bytes", Yards.bytes(x, 0), "1 2 3 4 1 2 5 6");
+        Yards.give(x, 3, 4, 7, 8);
         check.due("store: only those in no file", x.store(15), 1);
-        give(x, 5, 6, 1, 2, 5, 6);
+        Yards.give(x, 5, 6, 1, 2, 5, 6);
         check.due("store: those of its old content are not new", x.store(0), 0);
         check.due("store: what no file has is gone", x.all(0), 4);
         check.due("store empty", x.store(0), 0);
         check.due("store empty: size", x.size(0), 0);
         check.due("store empty: parts left", x.all(0), 2);
-        give(x, 1);
+        Yards.give(x, 1);
         for (int file : NO_FILES) {
             check.refused("store(" + file + ")", INDEX, () -> x.store(file));
         }
@@ -154,30 +154,30 @@ public final class PromiseTest {
     private void storeNumbers() {
         CutYard x = new CutYard();
         x.begin(1, 2, 2);
-        give(x, 1, 1, 2, 2, 3, 3, 4, 4);
+        Yards.give(x, 1, 1, 2, 2, 3, 3, 4, 4);
         x.store(0);
-        check.due("numbers in order of coming", numbers(x, 0), "0 1 2 3");
-        give(x, 4, 4, 2, 2);
+        check.due("numbers in order of coming", Yards.numbers(x, 0), "0 1 2 3");
+        Yards.give(x, 4, 4, 2, 2);
         x.store(1);
-        check.due("numbers of known parts", numbers(x, 1), "3 1");
+        check.due("numbers of known parts", Yards.numbers(x, 1), "3 1");
         x.store(0);
-        give(x, 5, 5, 4, 4, 6, 6, 7, 7);
+        Yards.give(x, 5, 5, 4, 4, 6, 6, 7, 7);
         x.store(2);
-        check.due("the least free numbers", numbers(x, 2), "0 3 2 4");
-        give(x, 7, 7, 8, 8, 8, 8);
+        check.due("the least free numbers", Yards.numbers(x, 2), "0 3 2 4");
+        Yards.give(x, 7, 7, 8, 8, 8, 8);
         x.store(2);
-        check.due("old parts leave behind the new ones", numbers(x, 2), "4 5 5");
-        give(x, 9, 9);
+        check.due("old parts leave behind the new ones", Yards.numbers(x, 2), "4 5 5");
+        Yards.give(x, 9, 9);
         x.store(3);
-        check.due("what left is free", numbers(x, 3), "0");
+        check.due("what left is free", Yards.numbers(x, 3), "0");
     }
 
     private void storeLimit() {
         CutYard x = new CutYard();
         x.begin(8, 2, 2);
-        give(x, pairs(0, 399));
+        Yards.give(x, Yards.pairs(0, 399));
         check.due("399 parts", x.store(0), 399);
-        give(x, pairs(399, 401));
+        Yards.give(x, Yards.pairs(399, 401));
         check.refused("store beyond 400 parts", LIMIT, () -> x.store(1));
         check.refused("store beyond 400 parts with its old ones", LIMIT, () -> x.store(0));
         check.due("store refused: parts", x.all(0), 399);
@@ -188,26 +188,26 @@ public final class PromiseTest {
 
         CutYard y = new CutYard();
         y.begin(8, 2, 2);
-        give(y, pairs(0, 399));
+        Yards.give(y, Yards.pairs(0, 399));
         y.store(0);
-        give(y, pairs(398, 400));
+        Yards.give(y, Yards.pairs(398, 400));
         check.due("store to 400 parts", y.store(1), 1);
-        check.due("store to 400 parts: numbers", numbers(y, 1), "398 399");
+        check.due("store to 400 parts: numbers", Yards.numbers(y, 1), "398 399");
         check.due("store to 400 parts: all", y.all(0), 400);
-        give(y, pairs(0, 2));
+        Yards.give(y, Yards.pairs(0, 2));
         check.due("store of known parts at the limit", y.store(2), 0);
-        give(y, pairs(400, 401));
+        Yards.give(y, Yards.pairs(400, 401));
         check.refused("store of one more", LIMIT, () -> y.store(2));
     }
 
     private void edit() {
         CutYard x = new CutYard();
-        give(x, squares(100));
+        Yards.give(x, Yards.squares(100));
         x.store(0);
         x.copy(0, 1);
         x.put(1, 77);
         check.due("edit: one new part", x.edit(0, 40, 0), 1);
-        check.due("edit: cut anew", lengths(x, 0), lengthsAnew(x, 0));
+        check.due("edit: cut anew", Yards.lengths(x, 0), lengthsAnew(x, 0));
         check.due("edit: the hand is empty", x.all(2), 0);
         check.due("edit: like stretches, like parts", x.common(0, 1) > 50, true);
         check.due("edit back", x.edit(0, 40, 1), 0);
@@ -231,26 +231,26 @@ public final class PromiseTest {
     private void editPlaces() {
         CutYard x = new CutYard();
         x.begin(8, 2, 2);
-        give(x, 1, 1, 2, 2, 3, 3);
+        Yards.give(x, 1, 1, 2, 2, 3, 3);
         x.store(0);
-        give(x, 9, 9);
+        Yards.give(x, 9, 9);
         check.due("edit in front", x.edit(0, 0, 0), 1);
-        check.due("edit in front: numbers", numbers(x, 0), "3 0 1 2");
-        give(x, 8);
+        check.due("edit in front: numbers", Yards.numbers(x, 0), "3 0 1 2");
+        Yards.give(x, 8);
         check.due("edit behind", x.edit(0, 8, 0), 1);
-        check.due("edit behind: bytes", bytes(x, 0), "9 9 1 1 2 2 3 3 8");
-        give(x, 7, 7, 7, 7);
+        check.due("edit behind: bytes", Yards.bytes(x, 0), "9 9 1 1 2 2 3 3 8");
+        Yards.give(x, 7, 7, 7, 7);
         check.due("edit within", x.edit(0, 4, 3), 2);
-        check.due("edit within: bytes", bytes(x, 0), "9 9 1 1 7 7 7 7 3 8");
-        check.due("edit within: numbers", numbers(x, 0), "3 0 5 5 6");
-        give(x, 6, 6);
+        check.due("edit within: bytes", Yards.bytes(x, 0), "9 9 1 1 7 7 7 7 3 8");
+        check.due("edit within: numbers", Yards.numbers(x, 0), "3 0 5 5 6");
+        Yards.give(x, 6, 6);
         check.due("edit of all", x.edit(0, 0, 10), 1);
-        check.due("edit of all: numbers", numbers(x, 0), "1");
+        check.due("edit of all: numbers", Yards.numbers(x, 0), "1");
         check.due("edit away", x.edit(0, 0, 2), 0);
         check.due("edit away: all", x.all(0), 0);
-        give(x, 4, 4);
+        Yards.give(x, 4, 4);
         check.due("edit of an empty file", x.edit(5, 0, 0), 1);
-        check.due("edit of an empty file: bytes", bytes(x, 5), "4 4");
+        check.due("edit of an empty file: bytes", Yards.bytes(x, 5), "4 4");
     }
 
     private void editLimits() {
@@ -270,7 +270,7 @@ public final class PromiseTest {
 
         CutYard y = new CutYard();
         y.begin(8, 2, 2);
-        give(y, pairs(0, 200));
+        Yards.give(y, Yards.pairs(0, 200));
         y.store(0);
         check.due("edit to 400 parts with its old ones", y.edit(0, 0, 1), 200);
         check.due("edit: old ones are gone", y.all(0), 200);
@@ -279,7 +279,7 @@ public final class PromiseTest {
 
         CutYard z = new CutYard();
         z.begin(8, 2, 2);
-        give(z, pairs(0, 201));
+        Yards.give(z, Yards.pairs(0, 201));
         z.store(0);
         check.refused("edit over 400 parts with its old ones", LIMIT, () -> z.edit(0, 0, 1));
         check.due("edit refused: parts", z.all(0), 201);
@@ -296,29 +296,29 @@ public final class PromiseTest {
     private void copy() {
         CutYard x = new CutYard();
         x.begin(8, 2, 2);
-        give(x, 1, 1, 2, 2, 1, 1);
+        Yards.give(x, 1, 1, 2, 2, 1, 1);
         x.store(0);
-        give(x, 3, 3, 4, 4);
+        Yards.give(x, 3, 3, 4, 4);
         x.store(1);
         x.put(1, 9);
         x.copy(0, 1);
-        check.due("copy: bytes", bytes(x, 1), "1 1 2 2 1 1");
-        check.due("copy: numbers", numbers(x, 1), "0 1 0");
+        check.due("copy: bytes", Yards.bytes(x, 1), "1 1 2 2 1 1");
+        check.due("copy: numbers", Yards.numbers(x, 1), "0 1 0");
         check.due("copy: old ones are gone", x.all(0), 2);
         check.due("copy: uses", x.about(0, 1), 4);
         check.due("copy: the hand stays", x.all(2), 1);
         x.copy(0, 0);
-        check.due("copy to itself", numbers(x, 0), "0 1 0");
+        check.due("copy to itself", Yards.numbers(x, 0), "0 1 0");
         check.due("copy to itself: uses", x.about(0, 1), 4);
         x.edit(0, 0, 2);
-        check.due("copies live apart", bytes(x, 1), "1 1 2 2 1 1");
+        check.due("copies live apart", Yards.bytes(x, 1), "1 1 2 2 1 1");
         x.copy(15, 1);
         check.due("copy of an empty file", x.size(1), 0);
         for (int file : NO_FILES) {
             check.refused("copy from " + file, INDEX, () -> copied(x, file, 0));
             check.refused("copy to " + file, INDEX, () -> copied(x, 0, file));
         }
-        check.due("copy refused", bytes(x, 0), "9 2 2 1 1");
+        check.due("copy refused", Yards.bytes(x, 0), "9 2 2 1 1");
     }
 
     private static Object copied(CutYard x, int from, int to) {
@@ -328,7 +328,7 @@ public final class PromiseTest {
 
     private void size() {
         CutYard x = new CutYard();
-        give(x, squares(100));
+        Yards.give(x, Yards.squares(100));
         x.store(15);
         check.due("size", x.size(15), 100);
         check.due("size of an empty one", x.size(14), 0);
@@ -339,8 +339,8 @@ public final class PromiseTest {
 
     private void get() {
         CutYard x = new CutYard();
-        int[] row = squares(100);
-        give(x, row);
+        int[] row = Yards.squares(100);
+        Yards.give(x, row);
         x.store(2);
         for (int k = 0; k < 100; k++) {
             check.due("get " + k, x.get(2, k), row[k]);
@@ -359,7 +359,7 @@ public final class PromiseTest {
 
     private void parts() {
         CutYard x = new CutYard();
-        give(x, squares(100));
+        Yards.give(x, Yards.squares(100));
         x.store(2);
         check.due("parts", x.parts(2), 8);
         x.begin(1, 1, 1);
@@ -377,9 +377,9 @@ public final class PromiseTest {
     private void part() {
         CutYard x = new CutYard();
         x.begin(8, 2, 2);
-        give(x, 5, 5, 6, 6, 5, 5, 7);
+        Yards.give(x, 5, 5, 6, 6, 5, 5, 7);
         x.store(4);
-        check.due("part numbers", numbers(x, 4), "0 1 0 2");
+        check.due("part numbers", Yards.numbers(x, 4), "0 1 0 2");
         for (int k : new int[] {-1, 4, Integer.MIN_VALUE, Integer.MAX_VALUE}) {
             check.refused("part(4, " + k + ")", INDEX, () -> x.part(4, k));
         }
@@ -392,10 +392,10 @@ public final class PromiseTest {
     private void about() {
         CutYard x = new CutYard();
         x.begin(8, 2, 2);
-        give(x, 5, 5, 6, 6, 5, 5, 7);
+        Yards.give(x, 5, 5, 6, 6, 5, 5, 7);
         x.store(4);
         x.copy(4, 9);
-        give(x, 6, 6);
+        Yards.give(x, 6, 6);
         x.store(0);
         check.due("about bytes", x.about(0, 0) + " " + x.about(1, 0) + " " + x.about(2, 0), "2 2 1");
         check.due("about uses", x.about(0, 1) + " " + x.about(1, 1) + " " + x.about(2, 1), "4 3 2");
@@ -416,9 +416,9 @@ public final class PromiseTest {
     private void common() {
         CutYard x = new CutYard();
         x.begin(8, 2, 2);
-        give(x, 5, 5, 6, 6, 5, 5, 7);
+        Yards.give(x, 5, 5, 6, 6, 5, 5, 7);
         x.store(0);
-        give(x, 8, 8, 5, 5, 7);
+        Yards.give(x, 8, 8, 5, 5, 7);
         x.store(1);
         check.due("common counts each time", x.common(0, 1), 5);
         check.due("common the other way", x.common(1, 0), 3);
@@ -434,7 +434,7 @@ public final class PromiseTest {
     private void all() {
         CutYard x = new CutYard();
         x.begin(8, 2, 2);
-        give(x, 5, 5, 6, 6, 5, 5, 7);
+        Yards.give(x, 5, 5, 6, 6, 5, 5, 7);
         x.store(0);
         x.copy(0, 1);
         x.put(3, 0);
@@ -442,14 +442,6 @@ public final class PromiseTest {
         for (int what : new int[] {-1, 3, Integer.MIN_VALUE, Integer.MAX_VALUE}) {
             check.refused("all(" + what + ")", ARGUMENT, () -> x.all(what));
         }
-    }
-
-    private static int[] squares(int many) {
-        int[] row = new int[many];
-        for (int i = 0; i < many; i++) {
-            row[i] = i * i % 256;
-        }
-        return row;
     }
 
     private static int[] steps(int many, int step) {
@@ -468,51 +460,6 @@ public final class PromiseTest {
         return row;
     }
 
-    /** Pairs of bytes, no two alike: under a rule of least 2 and most 2 each is a part. */
-    private static int[] pairs(int from, int to) {
-        int[] row = new int[2 * (to - from)];
-        for (int i = from; i < to; i++) {
-            row[2 * (i - from)] = i % 200;
-            row[2 * (i - from) + 1] = 200 + i / 200;
-        }
-        return row;
-    }
-
-    private static void give(CutYard x, int... row) {
-        for (int i = 0; i < row.length; i += 4) {
-            int many = Math.min(4, row.length - i);
-            int v = 0;
-            for (int j = many - 1; j >= 0; j--) {
-                v = v << 8 | row[i + j];
-            }
-            x.put(many, v);
-        }
-    }
-
-    private static String lengths(CutYard x, int file) {
-        StringBuilder text = new StringBuilder();
-        for (int k = 0; k < x.parts(file); k++) {
-            text.append(k == 0 ? "" : " ").append(x.about(x.part(file, k), 0));
-        }
-        return text.toString();
-    }
-
-    private static String numbers(CutYard x, int file) {
-        StringBuilder text = new StringBuilder();
-        for (int k = 0; k < x.parts(file); k++) {
-            text.append(k == 0 ? "" : " ").append(x.part(file, k));
-        }
-        return text.toString();
-    }
-
-    private static String bytes(CutYard x, int file) {
-        StringBuilder text = new StringBuilder();
-        for (int k = 0; k < x.size(file); k++) {
-            text.append(k == 0 ? "" : " ").append(x.get(file, k));
-        }
-        return text.toString();
-    }
-
     /** The lengths of a file's parts if a new object of the default rule stores its bytes. */
     private static String lengthsAnew(CutYard x, int file) {
         int[] row = new int[x.size(file)];
@@ -520,8 +467,8 @@ public final class PromiseTest {
             row[k] = x.get(file, k);
         }
         CutYard anew = new CutYard();
-        give(anew, row);
+        Yards.give(anew, row);
         anew.store(0);
-        return lengths(anew, 0);
+        return Yards.lengths(anew, 0);
     }
 }
